@@ -3,6 +3,10 @@ final class Check {
     private int calls = 0;
     private int wrong = 0;
 
+    int calls() {
+        return calls;
+    }
+
     void due(String call, int got, int want) {
         calls++;
         if (got != want) {
