@@ -213,7 +213,7 @@ public final class VersionDepot {
     }
 
     public boolean clashing(int file) {
-        return isFile(file) && (clashes & 1 << file) != 0;
+        return isFile(file) && (clashes & (1 << file)) != 0;
     }
 
     public int count(int what) {
@@ -351,7 +351,7 @@ public final class VersionDepot {
         }
 
         boolean holds(int commit) {
-            return commit >= 1 && commit <= COMMITS && (stored & 1 << commit) != 0;
+            return commit >= 1 && commit <= COMMITS && (stored & (1 << commit)) != 0;
         }
 
         int commits() {
@@ -375,13 +375,13 @@ public final class VersionDepot {
         }
 
         boolean leadsTo(int commit, int ancestor) {
-            return (ancestors[commit] & 1 << ancestor) != 0;
+            return (ancestors[commit] & (1 << ancestor)) != 0;
         }
 
         int meetingOf(int a, int b) {
             int shared = ancestors[a] & ancestors[b];
             int commit = COMMITS;
-            while (commit > 0 && (shared & 1 << commit) == 0) {
+            while (commit > 0 && (shared & (1 << commit)) == 0) {
                 commit--;
             }
             return commit;
@@ -393,7 +393,7 @@ public final class VersionDepot {
             rootOf[made] = keepRoot(contents);
             firstParents[made] = first;
             secondParents[made] = second;
-            ancestors[made] = 1 << made | ancestors[first] | ancestors[second];
+            ancestors[made] = (1 << made) | ancestors[first] | ancestors[second];
             stored |= 1 << made;
             return made;
         }
@@ -451,7 +451,7 @@ public final class VersionDepot {
 
         void keep(int content) {
             if (content != 0) {
-                bits[content / WORD] |= 1L << content % WORD;
+                bits[content / WORD] |= 1L << (content % WORD);
             }
         }
 

@@ -37,6 +37,7 @@ public final class PickTest {
         check.due("common(3, 4)", depot.common(3, 4), 1);
         check.due("pick(2)", depot.pick(2), 5);
         check.due("differ(3, 5)", depot.differ(3, 5), 0);
+        check.due("parent(5, 0)", depot.parent(5, 0), 4);
         check.stored(depot, 4, 4, 4, 5);
     }
 
