@@ -1,5 +1,8 @@
 /** Counts the answers that are not the ones that are due. */
 final class Check {
+    /** One fault may show in a million answers; the first of them tell enough. */
+    private static final int MOST_PRINTED = 500;
+
     private int calls = 0;
     private int wrong = 0;
 
@@ -11,8 +14,14 @@ final class Check {
         calls++;
         if (got != want) {
             wrong++;
-            System.out.println(call + " answered " + got + ", due is " + want);
+            if (wrong <= MOST_PRINTED) {
+                System.out.println(call + " answered " + got + ", due is " + want);
+            }
         }
+    }
+
+    void refused(String call, int got) {
+        due(call, got, VersionDepot.REFUSED);
     }
 
     void due(String call, boolean got, boolean want) {

@@ -9,6 +9,7 @@ public final class SweepTest {
         keepsWhatIsShared(check);
         storesAgainWhatWasSwept(check);
         takesTheEmptyRoot(check);
+        takesACommitBetweenOthers(check);
         changesNothingElse(check);
         check.end();
     }
@@ -121,6 +122,24 @@ public final class SweepTest {
         depot.reset(1);
         check.due("sweep()", depot.sweep(), 2);
         check.stored(depot, 1, 1, 1, 1);
+    }
+
+    private static void takesACommitBetweenOthers(Check check) {
+        for (int file = 0; file < 16; file++) {
+            VersionDepot depot = new VersionDepot();
+            check.commit(depot, 1, 1);
+            check.put(depot, file, 2);
+            check.due("commit()", depot.commit(), 2);
+            check.due("reset(1)", depot.reset(1), 0);
+            check.put(depot, 15 - file, 3);
+            check.due("commit()", depot.commit(), 3);
+            // Commit 2 with its root, its folder and its blob.
+            check.due("sweep() without file " + file, depot.sweep(), 4);
+            check.stored(depot, 2, 2, 2, 2);
+            check.due("at(3, " + (15 - file) + ")", depot.at(3, 15 - file), 3);
+            check.refused("at(2, " + file + ")", depot.at(2, file));
+            check.refused("reset(2)", depot.reset(2));
+        }
     }
 
     private static void changesNothingElse(Check check) {
